@@ -16,10 +16,14 @@ final class SheetsTest {
         SolsticeBoys x = new SolsticeBoys();
         for (int lane = 0; lane < 3; lane++) {
             CHECKS.due("sheet", x.sheet(3, lane, 60), 1);
-            x.put(3, 59, 7);
+            for (int i = 0; i < 60; i++) {
+                CHECKS.due("put " + i, x.put(3, i, 7), 1);
+            }
             CHECKS.due("last cell", x.cell(3, 59, lane), 7);
             CHECKS.due("a new row", x.sheet(3, lane, 60), 1);
-            CHECKS.due("0 at first", x.cell(3, 59, lane), 0);
+            for (int i = 0; i < 60; i++) {
+                CHECKS.due("0 at first " + i, x.cell(3, i, lane), 0);
+            }
             CHECKS.due("an empty row", x.sheet(3, lane, 0), 1);
             CHECKS.due("without cells", x.put(3, 0, 1), Checks.INDEX);
         }

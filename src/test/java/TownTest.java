@@ -85,6 +85,9 @@ final class TownTest {
         CHECKS.due("a number that would wrap", wide.town(0, 2, 0, 2), -101);
         Checks.writeNumbers(wide, 0, 2, 'j' + 256);
         CHECKS.due("a number beyond a byte", wide.town(0, 2, 0, 1), -100);
+        wide.sheet(0, 0, 60);
+        wide.put(0, 59, 'j');
+        CHECKS.due("the last cell of the longest row", wide.town(0, 0, 59, 1), -101);
     }
 
     private static void fault(String text, int place) {
