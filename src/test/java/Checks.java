@@ -55,4 +55,33 @@ final class Checks {
         }
         return x;
     }
+
+    /** All that can be seen but fault(), and the debts and kinds that follow from the readings. */
+    static String state(SolsticeBoys x) {
+        StringBuilder s = new StringBuilder();
+        for (int what = 0; what < 3; what++) {
+            s.append(x.many(what)).append(' ');
+        }
+        for (int a = 0; a < x.many(1); a++) {
+            for (int b = 0; b < x.many(1); b++) {
+                s.append(x.owes(a, b)).append(' ');
+            }
+        }
+        for (int b = 0; b < x.many(0); b++) {
+            s.append(x.ofBoy(b, 0)).append(' ').append(x.ofBoy(b, 1)).append(' ').append(x.bound(b)).append(' ');
+        }
+        for (int k = 0; k < 4; k++) {
+            for (int lane = 0; lane < 3; lane++) {
+                for (int i = 0; i < 61; i++) {
+                    long cell = x.cell(k, i, lane);
+                    s.append(cell == SolsticeBoys.LOST ? "-" : cell).append(' ');
+                    if (x.fault() != 0) {
+                        s.append(x.fault());
+                        break;
+                    }
+                }
+            }
+        }
+        return s.append(x.trace()).toString();
+    }
 }

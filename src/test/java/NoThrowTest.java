@@ -16,10 +16,10 @@ final class NoThrowTest {
                     Checks.found(x, TEXTS[RANDOM.nextInt(TEXTS.length)]);
                 }
                 int which = RANDOM.nextInt(31);
-                String before = state(x);
+                String before = Checks.state(x);
                 long answer = call(x, which);
                 boolean changes = answer >= 0 && changesWhenTaken(which);
-                if (!changes && !state(x).equals(before)) {
+                if (!changes && !Checks.state(x).equals(before)) {
                     CHECKS.isTrue("call " + which + " that answered " + answer + " changes nothing", false);
                 }
             }
@@ -75,34 +75,5 @@ final class NoThrowTest {
             case 29: return x.many(any());
             default: return x.trace() + (long) x.fault();
         }
-    }
-
-    /** All that can be seen but fault(). */
-    private static String state(SolsticeBoys x) {
-        StringBuilder s = new StringBuilder();
-        for (int what = 0; what < 3; what++) {
-            s.append(x.many(what)).append(' ');
-        }
-        for (int a = 0; a < x.many(1); a++) {
-            for (int b = 0; b < x.many(1); b++) {
-                s.append(x.owes(a, b)).append(' ');
-            }
-        }
-        for (int b = 0; b < x.many(0); b++) {
-            s.append(x.ofBoy(b, 0)).append(' ').append(x.ofBoy(b, 1)).append(' ').append(x.bound(b)).append(' ');
-        }
-        for (int k = 0; k < 4; k++) {
-            for (int lane = 0; lane < 3; lane++) {
-                for (int i = 0; i < 61; i++) {
-                    long cell = x.cell(k, i, lane);
-                    s.append(cell == SolsticeBoys.LOST ? "-" : cell).append(' ');
-                    if (x.fault() != 0) {
-                        s.append(x.fault());
-                        break;
-                    }
-                }
-            }
-        }
-        return s.append(x.trace()).toString();
     }
 }
