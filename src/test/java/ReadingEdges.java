@@ -8,6 +8,7 @@ final class ReadingEdges {
     }
 
     static void run(Edges edges) {
+        forgeOfTheTownAsItIs(edges);
         forgeOfNoPence(edges);
         forgeByNone(edges);
         forgeOfNine(edges);
@@ -28,6 +29,22 @@ final class ReadingEdges {
             edges.answers(x, want[what], "forge", b, m, n, what);
         }
         edges.due("all is as it was", Edges.state(x).equals(before) ? 1 : 0, 1);
+    }
+
+    /** Asked first of all, or right behind a change, a note is reckoned from the town as it is then. */
+    private static void forgeOfTheTownAsItIs(Edges edges) {
+        edges.says(15, "FORGE: PENCE more (what 0), who OWES (1), to whom (2); NONE.");
+        SolsticeBoys x = Checks.townOf("j3,040,000,000;b0");
+        edges.answers(x, 5, "forge", 0, 2, 1, 0);
+        x.owe(0, 1, 7);
+        edges.answers(x, 8, "forge", 0, 2, 1, 0);
+        x.bind(0, 1);
+        edges.answers(x, 1, "forge", 0, 2, 1, 0);
+        edges.answers(x, 1, "forge", 0, 2, 1, 1);
+        Checks.found(x, "j4,0000,0000,0000,2000;b3");
+        edges.answers(x, 3, "forge", 0, 2, 1, 0);
+        edges.answers(x, 3, "forge", 0, 2, 1, 1);
+        edges.answers(x, 2, "forge", 0, 2, 1, 2);
     }
 
     private static int[] note(int pence, int who, int whom) {
